@@ -55,7 +55,6 @@ public final class RhythmBench {
             history[k] = new State();
         }
         overlay = new Overlay();
-        remembered = 0;
         beats = 4;
         value = 4;
         swingA = 1;
@@ -564,7 +563,6 @@ public final class RhythmBench {
 
         Text(int room) {
             codes = new char[Math.max(room, 0)];
-            size = 0;
         }
 
         int size() {
@@ -607,7 +605,7 @@ public final class RhythmBench {
 
         /** The first index, not before another, at which one of two characters is; the size if there is none. */
         int seek(int from, int one, int other) {
-            for (int k = Math.max(from, 0); k < size; k++) {
+            for (int k = from < 0 ? 0 : from; k < size; k++) {
                 if (codes[k] == one || codes[k] == other) {
                     return k;
                 }
@@ -865,10 +863,7 @@ public final class RhythmBench {
         private boolean isTied;
 
         Score() {
-            count = 0;
-            barCount = 1;
-            total = 0;
-            isTied = false;
+            start();
         }
 
         int count() {
@@ -990,7 +985,6 @@ public final class RhythmBench {
         TupletScale() {
             ups[0] = 1;
             downs[0] = 1;
-            depth = 0;
         }
 
         void start() {

@@ -9,6 +9,7 @@ public final class EventsTest {
         onset();
         ties();
         swung();
+        textAfterText();
         event();
         levels();
         syncopations();
@@ -130,6 +131,20 @@ public final class EventsTest {
         dueSwung(fine, 3, 14438, 1686825);
     }
 
+    /** Nothing of an earlier text is left when a part gets another one. */
+    private static void textAfterText() {
+        RhythmBench bench = Check.with("q|q|{3:2^ee~}");
+        Check.read(bench, 0, "re|{3:2s.~q}");
+        CHECK.due("events after another text", bench.events(0), 1);
+        dueOnset(bench, 0, 1, 8);
+        dueLasts(bench, 0, 11, 48);
+        CHECK.dueFraction("length", bench.length(0, 0), bench.length(0, 1), 17, 48);
+        CHECK.dueFraction("bar 0", bench.bar(0, 0, 0), bench.bar(0, 0, 1), 1, 8);
+        CHECK.dueFraction("bar 1", bench.bar(0, 1, 0), bench.bar(0, 1, 1), 11, 48);
+        CHECK.due("the bar of its event", bench.event(0, 0, 1), 1);
+        CHECK.due("no accent is left", bench.event(0, 0, 0), 0);
+    }
+
     private static void event() {
         RhythmBench bench = Check.with("||^q~q|e|[s|]2");
         int[][] due = {{1, 2, 2}, {0, 3, 1}, {0, 4, 1}, {0, 5, 1}};
@@ -187,6 +202,8 @@ public final class EventsTest {
         dueSyncopations("t..t..", 0, 3);
         dueSyncopations("{3:2qqq}", 0, 5, 4);
         dueSyncopations("{9:2{9:2tttt}}", 0, 0, 0, 0);
+        // From 1/96 to 1/48 there is 1/64, of level 6.
+        dueSyncopations("{6:2tt}", 0, 1);
     }
 
     private static void wrongArguments() {

@@ -15,6 +15,8 @@ public final class GridsTest {
         for (int[] pair : due) {
             CHECK.due("offGrid " + pair[0], bench.offGrid(0, pair[0]), pair[1]);
         }
+        CHECK.due("offGrid of a first event", Check.with("reqq").offGrid(0, 4), 2);
+        CHECK.due("offGrid of a first event alone", Check.with("req").offGrid(0, 4), 1);
         CHECK.due("offGrid of nothing", bench.offGrid(1, 1), 0);
         int[][] wrong = {{0, 0}, {0, 1001}, {0, -1}, {4, 4}, {-1, 4}, {0, Integer.MAX_VALUE}, {0, Integer.MIN_VALUE}};
         for (int[] pair : wrong) {
@@ -32,6 +34,7 @@ public final class GridsTest {
         dueLeastGrid("www", 1);
         dueLeastGrid("s", 1);
         dueLeastGrid("sq", 16);
+        dueLeastGrid("rsq", 16);
         dueLeastGrid("q{3:2eee}eeree", 24);
         dueLeastGrid("{5:4ee}{3:2ee}", 60);
         dueLeastGrid("{5:4qq}|{7:4ee}", 70);

@@ -78,15 +78,24 @@ public final class TextsTest {
             "{3:2|q}", "{3:2[q]2}", "{3:2.", "{2:2{2:2{", "{2:2{2:2}", "{2:2{2:2q}", "{2:2{2:2q}q}}", "{33:2q}",
             "[", "[q", "[q]", "[q]1", "[q]0", "[q]22", "[q]q", "[[", "[q/", "[q/:", "[q/0:", "[q/1", "[q/1q", "[q/10:",
             "[q/1:h", "[q/1:[", "[q/1:h]", "[q/1:h]1", "[q/1:2", "[{3:2q]2", "[{3:2q/1:", "q|/", "q[q]2/", "[q]2]", "{3:2q}.", "{3:2q}~",
-            "q|.", "[q]2.", "[.", "{3:2^}", "{3:2r}", "q q", "[q/1 2:h]2"};
+            "q|.", "[q]2.", "[.", "{3:2^}", "{3:2r}", "q q", "[q/1 2:h]2",
+            "q{3:2}", "{2:2q{2:2}", "[q{3:2}", "{3:2q}{3:2}"};
         int[] places = {0, 0, 0, 0, 0, 3, 2, 2, 2, 1, 1, 1, 1, 1, 1, 1,
             0, 0, 0, 0, 0, 1, 1, 1, 2, 2, 3, 3, 4, 4, 5,
             4, 4, 4, 8, 8, 10, 12, 2,
             1, 2, 3, 3, 3, 4, 3, 1, 3, 3, 3, 4, 4, 4,
             6, 5, 7, 7, 5, 6, 6, 2, 5, 4, 6, 6,
-            2, 4, 1, 5, 5, 1, 4};
+            2, 4, 1, 5, 5, 1, 4,
+            5, 9, 6, 10};
         for (int k = 0; k < texts.length; k++) {
             CHECK.due("read " + texts[k], Check.read(new RhythmBench(), 0, texts[k]), -100 - places[k]);
+        }
+        // What an earlier wrong text left open does not matter to the next one.
+        RhythmBench bench = new RhythmBench();
+        for (int k = 0; k < texts.length; k++) {
+            CHECK.due("read again " + texts[k], Check.read(bench, 0, texts[k]), -100 - places[k]);
+            CHECK.due("read right after " + texts[k], Check.read(bench, 0, "q|[q]2"), 3);
+            CHECK.due("read a dot after " + texts[k], Check.read(bench, 0, "."), -100);
         }
         // A full buffer that begins a text of a part is wrong at its length.
         CHECK.due("read a full beginning", Check.read(new RhythmBench(), 0, "[" + "q".repeat(99)), -200);
@@ -96,6 +105,8 @@ public final class TextsTest {
         String fifty = "q".repeat(50);
         CHECK.due("300 notes", Check.read(new RhythmBench(), 0, "[" + fifty + "]6"), 300);
         CHECK.due("301 notes", Check.read(new RhythmBench(), 0, "[" + fifty + "]6q"), RhythmBench.FULL);
+        CHECK.due("301 whole notes", Check.read(new RhythmBench(), 0, "[" + "w".repeat(43) + "]7"), RhythmBench.FULL);
+        CHECK.due("300 thirty-seconds", Check.read(new RhythmBench(), 0, "[" + "t".repeat(75) + "]4"), 300);
         CHECK.due("301 with a rest", Check.read(new RhythmBench(), 0, "[" + fifty + "]6rq"), RhythmBench.FULL);
         CHECK.due("300 with ties", Check.read(new RhythmBench(), 0, "[" + "q~".repeat(30) + "]9[" + "e~".repeat(15) + "]2"), 1);
         CHECK.due("301 with ties", Check.read(new RhythmBench(), 0, "[" + "q~".repeat(30) + "]9[" + "e~".repeat(15) + "]2s"), RhythmBench.FULL);

@@ -82,6 +82,9 @@ public final class TogetherTest {
         dueCycleError("[" + "w".repeat(25) + "]5", "wwwwwwwww", RhythmBench.FULL);
         dueCycleError("[" + "{2:9{2:9w..w..w..w..w..w..w..w..}}" + "]9{9:2{9:2t}}", "[{2:9{2:9w..w..w..w..w..w..w..w..}}]9{7:2{7:2t}}", RhythmBench.FULL);
         dueCycleError("[{2:9{2:9w..w..w..w..w..w..w..w..}}]9", "[{2:9{2:9w..w..w..w..w..w..w..w..}}]9", RhythmBench.FULL);
+        // The numerator of this length over the finest denominator has no divisor in common with the other's.
+        String fine = "{7:2{7:2t}}{5:2{5:2t}}{9:2{9:2t}}{8:3{8:3t..}}";
+        dueCycleError(fine, "q" + fine, RhythmBench.FULL);
         dueCycleError("", "q", RhythmBench.STATE);
         dueCycleError("||", "", RhythmBench.STATE);
         dueCycleError("[{2:9{2:9w..w..w..w..w..w..w..w..}}]9", "[]2", RhythmBench.STATE);

@@ -2,12 +2,33 @@
 final class Check {
     private int wrong = 0;
     private int made = 0;
+    private int madeBefore = -1;
+    private String sentence = "";
+
+    /** Names the sentence of the document that the answers from here on are due to. */
+    void says(String promise, String words) {
+        endSentence();
+        sentence = promise + " \"" + words + "\": ";
+        madeBefore = made;
+    }
+
+    private void endSentence() {
+        if (made == madeBefore) {
+            fault("it is named, but not tested");
+        }
+        sentence = "";
+        madeBefore = -1;
+    }
+
+    void fault(String what) {
+        wrong++;
+        System.out.println(sentence + what);
+    }
 
     void due(String call, long got, long want) {
         made++;
         if (got != want) {
-            wrong++;
-            System.out.println(call + " answered " + got + ", due is " + want);
+            fault(call + " answered " + got + ", due is " + want);
         }
     }
 
@@ -18,6 +39,7 @@ final class Check {
     }
 
     void end() {
+        endSentence();
         System.out.println(wrong == 0 ? made + " answers are as due" : wrong + " answers are not as due");
         if (wrong != 0) {
             System.exit(1);
@@ -67,8 +89,7 @@ final class Check {
     void dueText(String call, String got, String want) {
         made++;
         if (!got.equals(want)) {
-            wrong++;
-            System.out.println(call + " answered '" + got + "', due is '" + want + "'");
+            fault(call + " answered '" + got + "', due is '" + want + "'");
         }
     }
 }

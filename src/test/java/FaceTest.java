@@ -23,7 +23,9 @@ public final class FaceTest {
     public static void main(String[] args) throws IOException {
         constants();
         members();
+        privateMethods();
         nestedClasses();
+        staticFields(RhythmBench.class);
         words();
         CHECK.end();
     }
@@ -64,11 +66,25 @@ public final class FaceTest {
         CHECK.due("public and final", RhythmBench.class.getModifiers(), Modifier.PUBLIC | Modifier.FINAL);
     }
 
-    private static void nestedClasses() {
+    private static TreeSet<String> publicNames() {
         TreeSet<String> names = new TreeSet<>();
         for (String method : METHODS) {
             names.add(method.substring(method.indexOf(' ') + 1, method.indexOf('(')));
         }
+        return names;
+    }
+
+    private static void privateMethods() {
+        TreeSet<String> names = publicNames();
+        for (Method method : RhythmBench.class.getDeclaredMethods()) {
+            if (Modifier.isPrivate(method.getModifiers())) {
+                CHECK.due(method + " bears a public name", names.contains(method.getName()) ? 1 : 0, 0);
+            }
+        }
+    }
+
+    private static void nestedClasses() {
+        TreeSet<String> names = publicNames();
         Class<?>[] nested = RhythmBench.class.getDeclaredClasses();
         CHECK.due("at most twelve classes", nested.length <= 11 ? 1 : 0, 1);
         for (Class<?> one : nested) {
@@ -77,6 +93,20 @@ public final class FaceTest {
                 .filter(field -> !Modifier.isStatic(field.getModifiers())).count() <= 20 ? 1 : 0, 1);
             for (Method method : one.getDeclaredMethods()) {
                 CHECK.due(method + " bears a public name", names.contains(method.getName()) ? 1 : 0, 0);
+                CHECK.due(method + " has few parameters", method.getParameterCount() <= 7 ? 1 : 0, 1);
+            }
+            staticFields(one);
+        }
+    }
+
+    /** Rule 5: static fields are final, and hold numbers, signs, texts or rows of numbers. */
+    private static void staticFields(Class<?> one) {
+        TreeSet<String> allowed = new TreeSet<>(Arrays.asList(
+            "int", "long", "boolean", "char", "String", "int[]", "long[]", "char[]", "byte[]"));
+        for (Field field : one.getDeclaredFields()) {
+            if (Modifier.isStatic(field.getModifiers())) {
+                CHECK.due(field + " is final", Modifier.isFinal(field.getModifiers()) ? 1 : 0, 1);
+                CHECK.due(field + " may be static", allowed.contains(field.getType().getSimpleName()) ? 1 : 0, 1);
             }
         }
     }
